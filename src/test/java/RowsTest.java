@@ -55,6 +55,9 @@ public final class RowsTest {
     row0IsLeft("fill", x);
     Due.is("the window sees it", () -> x.get(5, 2), -99);
     Due.is("fill none", () -> x.fill(1, 99), 0);
+    Splicemonoid full = Due.rows(TWELVE);
+    Due.is("fill 12", () -> full.fill(0, 5), 12);
+    Due.is("all are the same", () -> full.howOften(0, 5), 12);
     Due.isAndLeavesAll("fill(0, 100)", x, () -> x.fill(0, 100), Due.ARGUMENT);
     Due.isAndLeavesAll("fill(0, -100)", x, () -> x.fill(0, -100), Due.ARGUMENT);
     Due.isAndLeavesAll("fill(4, 100)", x, () -> x.fill(4, 100), Due.BOUNDS);
@@ -236,6 +239,12 @@ public final class RowsTest {
     Due.is("itself", () -> x.areApart(0, 0), false);
     Due.is("none", () -> x.areApart(0, 3), true);
     Due.is("none and none", () -> x.areApart(3, 3), true);
+    x.remove(2, 1);
+    Due.is("what went is in none", () -> x.areApart(2, 0), true);
+    Splicemonoid full = Due.rows(TWELVE, Due.row(-1));
+    Due.is("12 apart", () -> full.areApart(0, 1), true);
+    full.set(1, 0, 11);
+    Due.is("the last of 12 in both", () -> full.areApart(0, 1), false);
   }
 
   private static void promise32AreSame() {

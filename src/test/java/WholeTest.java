@@ -14,6 +14,9 @@ public final class WholeTest {
     x.window(0, 0, 1, 4);
     x.window(2, 4, 0, 2);
     x.window(3, 1, 0, 0);
+    // One that was there has left nothing behind.
+    x.window(1, 3, 0, 2);
+    x.close(1);
     x.open(0, 6, 1);
     x.open(2, 2, 1);
     return x;
