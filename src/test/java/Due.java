@@ -10,8 +10,18 @@ final class Due {
 
   private static int wrong = 0;
   private static int looked = 0;
+  private static String heading = "";
 
   private Due() {
+  }
+
+  /** The words that go ahead of what is told as not due. */
+  static void under(String words) {
+    heading = words.isEmpty() ? "" : words + "\n    ";
+  }
+
+  static int looked() {
+    return looked;
   }
 
   /** The answer as a text; of an exception its exact class, so that a machine's own never passes. */
@@ -28,7 +38,7 @@ final class Due {
     String got = told(call);
     if (!got.equals(String.valueOf(want))) {
       wrong++;
-      System.out.println(name + " answered " + got + ", due is " + want);
+      System.out.println(heading + name + " answered " + got + ", due is " + want);
     }
   }
 
