@@ -190,6 +190,10 @@ public final class ActEdgesTest {
           Due.is("text", () -> x.text(3), "[]");
           Due.is("2 of a window", () -> x.clear(5), 2);
           Due.is("text", () -> x.text(0), "[10, 11, 14, 15]");
+          x.remove(1, 0);
+          x.open(0, 1, 0);
+          Due.is("one alone", () -> x.clear(1), 1);
+          Due.is("it is a change as well", () -> x.ofCursor(0, 0) + x.text(1), "-1[]");
           Watch.isChange((y, where) -> y.clear(where));
         })
         .edge(NOTHING, () -> {
@@ -217,6 +221,7 @@ public final class ActEdgesTest {
                 + " or come",
             () -> {
               spliceWithTheSame();
+              spliceOfOne();
               Watch.isChange((x, where) -> x.splice(where, 0, 1, 1));
               Watch.isChange((x, where) -> x.splice(where, 0, 1, 2));
               Watch.isChange((x, where) -> x.splice(where, 1, 1, 1));
@@ -294,6 +299,19 @@ public final class ActEdgesTest {
     Due.is("text", () -> y.text(0), "[10, 11, 2, 3, 4, 14, 15]");
     Due.is("which stands", () -> y.ofWindow(3, 2), 3);
     Due.is("with its items", () -> y.text(3), "[0, 1, 2, 3, 4, 5, 6, 7, 8, 9, 10, 11]");
+  }
+
+  private static void spliceOfOne() {
+    Splicemonoid x = Due.rows(Due.row(1, 2), Due.row(9));
+    x.open(0, 0, 0);
+    Due.is("one comes, none goes", () -> x.splice(0, 1, 1, 1), 3);
+    Due.is("it is a change", () -> x.ofCursor(0, 0) + x.text(0), "-1[1, 9, 2]");
+    x.open(0, 0, 0);
+    Due.is("one goes, none comes", () -> x.splice(0, 2, 3, 2), 2);
+    Due.is("it is a change", () -> x.ofCursor(0, 0) + x.text(0), "-1[1, 9]");
+    x.open(0, 0, 0);
+    Due.is("one comes for its like", () -> x.splice(0, 1, 2, 1), 2);
+    Due.is("it is a change", () -> x.ofCursor(0, 0) + x.text(0), "-1[1, 9]");
   }
 
   private static Splicemonoid five() {
@@ -415,6 +433,9 @@ public final class ActEdgesTest {
               Splicemonoid x = few(2);
               Due.is("2 are as they were", () -> x.riffle(5), 2);
               Due.is("but it is a change", () -> x.house(2), 0);
+              Splicemonoid z = Scene.furnished();
+              Due.is("a window", () -> z.riffle(4), 4);
+              Due.is("text", () -> z.text(0), "[10, 11, 13, 12, 14, 15]");
               Watch.isChange((y, where) -> y.riffle(where));
             })
         .edge(NOTHING, () -> littleIsLeft((x, where) -> x.riffle(where)))
@@ -438,6 +459,9 @@ public final class ActEdgesTest {
               Splicemonoid x = few(2);
               Due.is("2 are as they were", () -> x.unriffle(5), 2);
               Due.is("but it is a change", () -> x.house(2), 0);
+              Splicemonoid z = Scene.furnished();
+              Due.is("a window", () -> z.unriffle(4), 4);
+              Due.is("text", () -> z.text(0), "[10, 11, 13, 12, 14, 15]");
               Watch.isChange((y, where) -> y.unriffle(where));
             })
         .edge(NOTHING, () -> littleIsLeft((x, where) -> x.unriffle(where)))

@@ -1,8 +1,5 @@
 /** Promises 1 to 17: a new object, and what is done and asked at rows and windows. */
 public final class ActsTest {
-  private static final int[] WRONG_WHERES = {
-    -1, 4, 5, 6, 7, 8, 99, Integer.MIN_VALUE, Integer.MAX_VALUE
-  };
   private static final int[] TWELVE = {0, 1, 2, 3, 4, 5, 6, 7, 8, 9, 10, 11};
 
   public static void main(String[] args) {
@@ -24,7 +21,6 @@ public final class ActsTest {
     promise15Get();
     promise16Size();
     promise17PartAt();
-    wrongWheres();
     Due.end("ActsTest");
   }
 
@@ -358,30 +354,5 @@ public final class ActsTest {
     Due.is("a window in a window", () -> x.partAt(4, 5), 1);
     Due.isAndLeavesAll("no such part", x, () -> x.partAt(0, 7), Due.BOUNDS);
     Due.isAndLeavesAll("no such where", x, () -> x.partAt(7, 0), Due.BOUNDS);
-  }
-
-  private static void wrongWheres() {
-    Splicemonoid x = Due.rows(Due.row(1, 2), Due.row(3), Due.row(4), Due.row(5));
-    x.open(0, 0, 1);
-    for (int i : WRONG_WHERES) {
-      Due.isAndLeavesAll("add " + i, x, () -> x.add(i, 1), Due.BOUNDS);
-      Due.isAndLeavesAll("insert " + i, x, () -> x.insert(i, 0, 1), Due.BOUNDS);
-      Due.isAndLeavesAll("set " + i, x, () -> x.set(i, 0, 1), Due.BOUNDS);
-      Due.isAndLeavesAll("remove " + i, x, () -> x.remove(i, 0), Due.BOUNDS);
-      Due.isAndLeavesAll("clear " + i, x, () -> x.clear(i), Due.BOUNDS);
-      Due.isAndLeavesAll("splice " + i, x, () -> x.splice(i, 0, 0, 0), Due.BOUNDS);
-      Due.isAndLeavesAll("splice with " + i, x, () -> x.splice(0, 0, 0, i), Due.BOUNDS);
-      Due.isAndLeavesAll("rotate " + i, x, () -> x.rotate(i, 1), Due.BOUNDS);
-      Due.isAndLeavesAll("reverse " + i, x, () -> x.reverse(i), Due.BOUNDS);
-      Due.isAndLeavesAll("swap " + i, x, () -> x.swap(i, 0, 0), Due.BOUNDS);
-      Due.isAndLeavesAll("riffle " + i, x, () -> x.riffle(i), Due.BOUNDS);
-      Due.isAndLeavesAll("unriffle " + i, x, () -> x.unriffle(i), Due.BOUNDS);
-      Due.isAndLeavesAll("sort " + i, x, () -> x.sort(i), Due.BOUNDS);
-      Due.isAndLeavesAll("sortBy " + i, x, () -> x.sortBy(i, 0), Due.BOUNDS);
-      Due.isAndLeavesAll("get " + i, x, () -> x.get(i, 0), Due.BOUNDS);
-      Due.isAndLeavesAll("size " + i, x, () -> x.size(i), Due.BOUNDS);
-      Due.isAndLeavesAll("partAt " + i, x, () -> x.partAt(i, 0), Due.BOUNDS);
-      Due.isAndLeavesAll("partAt of " + i, x, () -> x.partAt(0, i), Due.BOUNDS);
-    }
   }
 }

@@ -1,7 +1,5 @@
 /** Promises 39 to 46: cursors, what they do, and what becomes of them. */
 public final class CursorsTest {
-  private static final int[] WRONG_CURSORS = {-1, 3, 4, Integer.MIN_VALUE, Integer.MAX_VALUE};
-
   public static void main(String[] args) {
     promise39Open();
     promise40Shut();
@@ -12,7 +10,6 @@ public final class CursorsTest {
     promise45Replace();
     promise46OfCursor();
     lastIsAPlace();
-    wrongCursors();
     Due.end("CursorsTest");
   }
 
@@ -221,20 +218,5 @@ public final class CursorsTest {
     x.set(0, 0, 8);
     Due.is("take", () -> x.take(0), 0);
     Due.is("text", () -> x.text(0), "[7, 7, 7]");
-  }
-
-  private static void wrongCursors() {
-    Splicemonoid x = walked();
-    x.open(0, 0, 2);
-    for (int i : WRONG_CURSORS) {
-      Due.isAndLeavesAll("open " + i, x, () -> x.open(i, 0, 0), Due.BOUNDS);
-      Due.isAndLeavesAll("shut " + i, x, () -> x.shut(i), Due.BOUNDS);
-      Due.isAndLeavesAll("next " + i, x, () -> x.next(i), Due.BOUNDS);
-      Due.isAndLeavesAll("previous " + i, x, () -> x.previous(i), Due.BOUNDS);
-      Due.isAndLeavesAll("put " + i, x, () -> x.put(i, 100), Due.BOUNDS);
-      Due.isAndLeavesAll("take " + i, x, () -> x.take(i), Due.BOUNDS);
-      Due.isAndLeavesAll("replace " + i, x, () -> x.replace(i, 100), Due.BOUNDS);
-      Due.isAndLeavesAll("ofCursor " + i, x, () -> x.ofCursor(i, 0), Due.BOUNDS);
-    }
   }
 }

@@ -410,6 +410,9 @@ public final class RowEdgesTest {
           Due.is("least, at the beginning", () -> x.least(1, false), -99);
           Due.is("greatest of one", () -> x.least(2, true), -1);
           Due.is("least of one", () -> x.least(2, false), -1);
+          x.add(2, -2);
+          Due.is("greatest of two", () -> x.least(2, true), -1);
+          Due.is("least of two", () -> x.least(2, false), -2);
         })
         .bounds(NO_ROW, () -> {
           Scene.noSuchRow((x, row) -> x.least(row, true));
@@ -437,7 +440,16 @@ public final class RowEdgesTest {
           Due.is("none and some", () -> x.areApart(3, 0), true);
           Due.is("none and itself", () -> x.areApart(3, 3), true);
           x.remove(2, 1);
-          Due.is("what went", () -> x.areApart(0, 2), true);
+          Due.is("what went", () -> x.areApart(2, 0), true);
+          x.remove(1, 0);
+          x.insert(1, 0, 1);
+          Due.is("the first ones", () -> x.areApart(0, 1), false);
+          Splicemonoid full = Scene.furnished();
+          Due.is("the last but three of 12", () -> full.areApart(3, 1), false);
+          full.fill(1, -1);
+          Due.is("12 and others", () -> full.areApart(3, 1), true);
+          full.set(1, 1, 11);
+          Due.is("the last of 12", () -> full.areApart(3, 1), false);
         })
         .bounds(NO_OTHER, () -> {
           Scene.noSuchRow((x, row) -> x.areApart(row, 0));

@@ -1,7 +1,5 @@
 /** Promises 18 to 35: what is done and asked at rows alone. */
 public final class RowsTest {
-  // A window is no row, also if it is there: window 0 (where 4) is there in wrongRows().
-  private static final int[] WRONG_ROWS = {-1, 4, 7, 8, Integer.MIN_VALUE, Integer.MAX_VALUE};
   private static final int[] TWELVE = {0, 1, 2, 3, 4, 5, 6, 7, 8, 9, 10, 11};
 
   public static void main(String[] args) {
@@ -20,7 +18,6 @@ public final class RowsTest {
     promise33Hash();
     promise34Text();
     promise35InArray();
-    wrongRows();
     Due.end("RowsTest");
   }
 
@@ -287,34 +284,5 @@ public final class RowsTest {
     Due.isAndLeavesAll("inArray(4, 0)", x, () -> x.inArray(4, 0), Due.BOUNDS);
     x.remove(0, 1);
     Due.isAndLeavesAll("what went", x, () -> x.inArray(0, 1), Due.BOUNDS);
-  }
-
-  private static void wrongRows() {
-    Splicemonoid x = watched(Due.row(1, 2), Due.row(3), Due.row(4), Due.row(5));
-    for (int i : WRONG_ROWS) {
-      Due.isAndLeavesAll("fill " + i, x, () -> x.fill(i, 1), Due.BOUNDS);
-      Due.isAndLeavesAll("removeItem " + i, x, () -> x.removeItem(i, 1), Due.BOUNDS);
-      Due.isAndLeavesAll("addAll " + i, x, () -> x.addAll(i, 0, 0), Due.BOUNDS);
-      Due.isAndLeavesAll("addAll from " + i, x, () -> x.addAll(0, 0, i), Due.BOUNDS);
-      Due.isAndLeavesAll("removeAll " + i, x, () -> x.removeAll(i, 0), Due.BOUNDS);
-      Due.isAndLeavesAll("removeAll from " + i, x, () -> x.removeAll(0, i), Due.BOUNDS);
-      Due.isAndLeavesAll("retainAll " + i, x, () -> x.retainAll(i, 0), Due.BOUNDS);
-      Due.isAndLeavesAll("retainAll from " + i, x, () -> x.retainAll(0, i), Due.BOUNDS);
-      Due.isAndLeavesAll("copy to " + i, x, () -> x.copy(0, i), Due.BOUNDS);
-      Due.isAndLeavesAll("places " + i, x, () -> x.places(i, 1), Due.BOUNDS);
-      Due.isAndLeavesAll("through to " + i, x, () -> x.through(0, 0, i), Due.BOUNDS);
-      Due.isAndLeavesAll("indexOf " + i, x, () -> x.indexOf(i, 1), Due.BOUNDS);
-      Due.isAndLeavesAll("lastIndexOf " + i, x, () -> x.lastIndexOf(i, 1), Due.BOUNDS);
-      Due.isAndLeavesAll("contains " + i, x, () -> x.contains(i, 1), Due.BOUNDS);
-      Due.isAndLeavesAll("howOften " + i, x, () -> x.howOften(i, 1), Due.BOUNDS);
-      Due.isAndLeavesAll("least " + i, x, () -> x.least(i, true), Due.BOUNDS);
-      Due.isAndLeavesAll("areApart " + i, x, () -> x.areApart(i, 0), Due.BOUNDS);
-      Due.isAndLeavesAll("areApart of " + i, x, () -> x.areApart(0, i), Due.BOUNDS);
-      Due.isAndLeavesAll("areSame " + i, x, () -> x.areSame(i, 0), Due.BOUNDS);
-      Due.isAndLeavesAll("areSame of " + i, x, () -> x.areSame(0, i), Due.BOUNDS);
-      Due.isAndLeavesAll("hash " + i, x, () -> x.hash(i), Due.BOUNDS);
-      Due.isAndLeavesAll("text " + i, x, () -> x.text(i), Due.BOUNDS);
-      Due.isAndLeavesAll("inArray " + i, x, () -> x.inArray(i, 0), Due.BOUNDS);
-    }
   }
 }
